@@ -36,13 +36,14 @@ public final class BeginTest {
         Check.same("not any more", x.register(Asm.STATE), 0);
         Check.same("and goes", x.run(1), 1);
         Check.same("R3", x.register(3), 5);
-        x = Asm.open(Asm.load(0, 0, 0));
+        x = Asm.open(Asm.load(0, 0, 0), Asm.set(3, 5));
         x.begin(100, true, 60, 96);
         Check.same("to the lock", x.run(9), 1);
         Check.same("it is locked", x.register(Asm.STATE), 2);
-        x.begin(21, false, 60, 180);
+        x.begin(101, true, 60, 180);
         Check.same("not any more", x.register(Asm.STATE), 0);
         Check.same("and goes", x.run(1), 1);
+        Check.registers("as if it had not been", x, 3, 5, 0, 0, 0, 102, 60, 180, 0, 1, 0, 0, 0, 0);
     }
 
     private static void beginRefuses() {

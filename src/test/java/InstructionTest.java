@@ -34,6 +34,7 @@ public final class InstructionTest {
         Check.same("run(5)", x.run(5), 5);
         Check.registers("loaded", x, 0, 137, 12345, 44, 12345, 777, 65535, 61440);
         Check.same("R3 was at 300 % 256", x.word(44), 12345);
+        Check.same("LOAD writes nothing", x.word(12345 % 256), 0);
         Check.same("stored by itself", x.word(61445 % 256), 61440);
     }
 
@@ -99,6 +100,10 @@ public final class InstructionTest {
         TwoWorlds x = Asm.open(Asm.raise(3));
         x.run(1);
         Check.registers("RAISE in the open world", x, 7, 101, 60, 180, 0, 1, 0, 0, 64, 0);
+        x = Asm.closed(Asm.set(7, 0));
+        Asm.put(x, 81, Asm.raise(2), Asm.raise(6));
+        Check.same("run(3)", x.run(3), 3);
+        Check.registers("what is pending stays so", x, 12, 1, 0, 32, 1);
     }
 
     private static void unknown() {

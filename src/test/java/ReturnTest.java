@@ -7,6 +7,7 @@ public final class ReturnTest {
         outCallReturns();
         ends();
         endBreaches();
+        framesWithoutAnEnd();
         Check.end();
     }
 
@@ -154,5 +155,40 @@ public final class ReturnTest {
             Check.registers("a word that may not be read", x, 6, 65408 + 48, 82, 60, stack - 20, 0, 0, 2, 0, 0, 2);
             Check.same("1000 + 3", x.word(stack - 20), 1003);
         }
+    }
+
+    /** Even on a frame with the right mark only 65408 .. 65519 ends, and only what is active. */
+    private static void framesWithoutAnEnd() {
+        int[] links = {65407, 65408, 65409, 65519, 65520, 65521, 65535};
+        for (int link : links) {
+            for (int way = 0; way < 4; way++) {
+                boolean active = (way & 1) != 0;
+                boolean open = (way & 2) != 0;
+                TwoWorlds x = returnOnFrames(link, active, open);
+                boolean end = active && link >= 65408 && link <= 65519;
+                boolean out = link == 65407 && !open;
+                String what = "LINK " + link + " in case " + way;
+                Check.same(what + ": taken last", x.register(Asm.LAST), end || out ? active ? 3 : 0 : 2);
+                Check.same(what + ": PC", x.register(Asm.PC), end ? 120 : out ? 65407 % 256 : 82);
+            }
+        }
+    }
+
+    /** After a RETURN with a frame for just this LINK on both stacks. */
+    private static TwoWorlds returnOnFrames(int link, boolean active, boolean open) {
+        TwoWorlds x = open ? Asm.open(Asm.GATE, Asm.RETURN) : Asm.closed(Asm.GATE, Asm.RETURN);
+        x.settings(true, open ? 0 : 15, 0, 20);
+        Asm.put(x, open ? 113 : 83, Asm.GATE, Asm.RETURN);
+        if (active) {
+            x.interrupt(3);
+        }
+        x.run(1);
+        int mark = 1000 + (((link - 65408) >> 4) & 7);
+        for (int k = Asm.CLOSED_STACK; k <= Asm.OPEN_STACK; k++) {
+            Asm.put(x, x.register(k), mark, 0, 0, 0, 0, 0, 0, 0, 0, 120);
+        }
+        x.set(6, link);
+        Check.same("a step", x.run(1), 1);
+        return x;
     }
 }
