@@ -3,6 +3,8 @@ final class Asm {
     static final int RETURN = 13 << 12;
     static final int GATE = 10 << 12;
     static final int STOP = 15 << 12;
+    /** One of the unknown instructions: SET R7. */
+    static final int UNKNOWN = 7 << 9;
     static final int LINK = 6;
 
     static final int PC = 7;
@@ -115,6 +117,27 @@ final class Asm {
         TwoWorlds x = machine();
         put(x, 100, program);
         x.begin(100, true, 60, 180);
+        return x;
+    }
+
+    /**
+     * {@link #machine()} in the closed handler of an exception, whose next instruction is at 201; its stacks are at
+     * 50 and 180, a frame (R0 .. R6 were 0, return to 20, or 100 for 2) is on the closed one; 3 .. 6 are closed.
+     */
+    static TwoWorlds handling(int e) {
+        TwoWorlds x = closed(e == 1 ? UNKNOWN : GATE);
+        x.settings(true, 15, 0, 20);
+        x.poke(200, GATE);
+        x.poke(e, 200);
+        if (e >= 3) {
+            x.interrupt(e);
+        } else {
+            x.begin(e == 1 ? 20 : 100, false, 60, 180);
+            x.run(1);
+        }
+        x.run(1);
+        x.poke(e, 80 + e);
+        Check.registers("handling " + e, x, LINK, 65409, 201, 50, 180, 0, 0, e, 0, 0, e);
         return x;
     }
 }

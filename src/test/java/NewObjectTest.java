@@ -1,16 +1,20 @@
 /** Promise 1. */
 public final class NewObjectTest {
     public static void main(String[] args) {
+        Check.registers("new", new TwoWorlds(), 0, 0, 0, 0, 0, 0, 0, 0, 0, 256, 256, 0, 0, 0, 0, 0, 0);
+        wordsAreZeroAndClosed();
+        breachesAreEnabled();
+        raisedExceptionsAreOpen();
+        objectsAreApart();
+        Check.end();
+    }
+
+    private static void wordsAreZeroAndClosed() {
         TwoWorlds x = new TwoWorlds();
         for (int i = 0; i < 256; i++) {
             Check.same("word(" + i + ")", x.word(i), 0);
             Check.same("kind(" + i + ")", x.kind(i), 0);
         }
-        Check.registers("new", x, 0, 0, 0, 0, 0, 0, 0, 0, 0, 256, 256, 0, 0, 0, 0, 0, 0);
-        breachesAreEnabled();
-        raisedExceptionsAreOpen();
-        objectsAreApart();
-        Check.end();
     }
 
     private static void breachesAreEnabled() {
