@@ -15,9 +15,11 @@ public final class EdgesOfInstructionsTest {
         registerSeven();
         registerSix();
         sevenThatIsNotNamed();
+        everyRegisterIsItself();
         setOfTheLowestNine();
         loadOffset();
         storeOffset();
+        loadByTheRegisterItself();
         goTarget();
         goZeroTarget();
         callTarget();
@@ -25,6 +27,7 @@ public final class EdgesOfInstructionsTest {
         outCallTarget();
         outCallLeavesTheOtherStack();
         raiseOfCModFour();
+        raiseBesideOthers();
         stopStandsStill();
         closedOnlyInTheOpenWorld();
         unknownBeforeABreach();
@@ -250,6 +253,38 @@ public final class EdgesOfInstructionsTest {
         }
     }
 
+    /** "a, b, c are the three bits from bit 9, 6 and 3 on": each of the seven registers in each place. */
+    private static void everyRegisterIsItself() {
+        int[] values = {101, 202, 303, 404, 505, 606, 707};
+        for (int a = 0; a <= 6; a++) {
+            for (int b = 0; b <= 6; b++) {
+                for (int c = 0; c <= 6; c++) {
+                    isOnlyChange("ADD", afterOne(Asm.add(a, b, c), values), a, values[b] + values[c]);
+                    isOnlyChange("SUB", afterOne(Asm.sub(a, b, c), values), a, values[b] - values[c] & 65535);
+                }
+                TwoWorlds x = Asm.closed(Asm.load(a, b, 3));
+                Asm.setAll(x, values);
+                x.poke(values[b] + 3, 5);
+                x.run(1);
+                isOnlyChange("LOAD", x, a, 5);
+                x = afterOne(Asm.store(a, b, 3), values);
+                Check.same("STORE", x.word(values[b] + 3), values[a]);
+            }
+            isOnlyChange("SET", afterOne(Asm.set(a, 9), values), a, 9);
+            isOnlyChange("POP", afterOne(Asm.pop(a), values), a, 0);
+            Check.same("PUSH", afterOne(Asm.push(a), values).word(59), values[a]);
+            Check.same("CALL", afterOne(Asm.call(a), values).register(Asm.PC), values[a] % 256);
+            Check.same("OUT", afterOne(Asm.out(a), values).register(Asm.PC), values[a] % 256);
+            Check.same("OUT CALL", afterOne(Asm.outCall(a), values).register(Asm.PC), values[a] % 256);
+        }
+    }
+
+    private static void isOnlyChange(String what, TwoWorlds x, int changed, int due) {
+        for (int k = 0; k <= 6; k++) {
+            Check.same(what + " to R" + changed + ": R" + k, x.register(k), k == changed ? due : 101 * (k + 1));
+        }
+    }
+
     /** "m its lowest 9 bits": "Ra becomes m" */
     private static void setOfTheLowestNine() {
         int[] values = {0, 1, 255, 256, 511};
@@ -284,6 +319,17 @@ public final class EdgesOfInstructionsTest {
             Check.same("STORE at " + p[0] + " + " + p[1], x.word(p[2]), 65535);
             Check.registers("registers stay", x, 0, p[0], 65535, 0, 0, 0, 0, 0, 21);
         }
+    }
+
+    /** LOAD writes no word, also where Ra is Rb. */
+    private static void loadByTheRegisterItself() {
+        TwoWorlds x = Asm.closed(Asm.load(0, 0, 63));
+        x.set(0, 137);
+        x.poke(200, 90);
+        x.run(1);
+        Check.registers("LOAD R0 by R0", x, 0, 90, 0, 0, 0, 0, 0, 0, 21);
+        Check.same("where R0 was", x.word(200), 90);
+        Check.same("where R0 is", x.word(153), 0);
     }
 
     /** "GO: PC becomes m % 256." */
@@ -355,6 +401,17 @@ public final class EdgesOfInstructionsTest {
             TwoWorlds x = Asm.open(Asm.raise(c) | 7);
             x.run(1);
             Check.registers("RAISE " + c + " in the open world", x, Asm.PC, 101, 60, 180, 0, 1, 0, 0, due, 0);
+        }
+    }
+
+    /** RAISE makes one pending: those that are so stay so, and the same one again is so once. */
+    private static void raiseBesideOthers() {
+        TwoWorlds x = Asm.handling(3);
+        Asm.put(x, 201, Asm.raise(1), Asm.raise(1), Asm.raise(7), Asm.raise(2), Asm.raise(4));
+        int[] due = {16, 16, 80, 112, 120};
+        for (int pending : due) {
+            x.run(1);
+            Check.registers("pending", x, Asm.ACTIVE, 3, 0, pending, 3);
         }
     }
 

@@ -407,6 +407,18 @@ public final class EdgesOfWorldsTest {
         for (int link : links) {
             isBreach("open RETURN by " + link, returnBy(true, link), true, 100);
         }
+        int[] likeAnEnd = {32768, 32769, 65280, 65281, 65407};
+        for (int link : likeAnEnd) {
+            TwoWorlds x = Asm.handling(4);
+            Asm.put(x, 201, Asm.out(0));
+            Asm.put(x, 130, Asm.RETURN);
+            x.set(0, 130);
+            x.set(6, link);
+            x.poke(50, 1000 + (link >> 4 & 7));
+            x.poke(180, 1000 + (link >> 4 & 7));
+            x.run(2);
+            Check.registers("in a handler", x, Asm.LINK, 65408 + 64, 82, 50, 170, 0, 0, 2, 0, 0, 2);
+        }
     }
 
     /** "65520, in the open world: the world is closed, and two words are popped (in the closed world)" */
